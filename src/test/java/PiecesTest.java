@@ -172,6 +172,19 @@ final class PiecesTest {
         CHECK.same("water freezes without ice too", road.told(0, 1), 20);
         CHECK.same("no black ice below water", road.told(0, 0), 0);
         CHECK.same("white ice alone is flooded", road.flood(0, 1), 61);
+        Icehighway thin = new Icehighway();
+        thin.piece(Icehighway.RIVER, 1, 1);
+        thin.snow(280);
+        thin.weather(9);
+        thin.pass(1440);
+        thin.flood(0, 1);
+        thin.weather(-1);
+        thin.pass(1440);
+        thin.snow(500);
+        thin.weather(10);
+        thin.pass(1440);
+        CHECK.same("a millimetre of white ice", thin.thickness(0, false), 0.5);
+        CHECK.same("a millimetre is flooded", thin.flood(0, 5), 5);
     }
 
     private static void drill() {

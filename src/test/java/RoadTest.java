@@ -177,6 +177,7 @@ final class RoadTest {
         CHECK.same("no gap", road.why(2), 0);
         road.pass(1);
         CHECK.same("all", road.told(0, 7), 4);
+        gapsOnTheWayBack();
         Icehighway long120 = Check.land(600);
         long120.gap(120);
         long120.vehicle(500, 0, 100);
@@ -189,6 +190,26 @@ final class RoadTest {
         CHECK.same("119 ago, though it is long gone", long120.why(1), 4);
         long120.pass(1);
         CHECK.same("120 ago", where(long120, 1), Icehighway.ON);
+    }
+
+    private static void gapsOnTheWayBack() {
+        Icehighway road = Check.land(600);
+        road.gap(0);
+        road.vehicle(500, 0, 100);
+        road.vehicle(500, 0, 100);
+        road.go(0);
+        road.go(1);
+        road.pass(2);
+        road.gap(6);
+        road.go(0);
+        road.go(1);
+        road.pass(1);
+        CHECK.same("the first is on its way back", where(road, 0), Icehighway.ON);
+        CHECK.same("one that came this way in this minute", road.why(1), 4);
+        road.pass(5);
+        CHECK.same("5 minutes ago", road.why(1), 4);
+        road.pass(1);
+        CHECK.same("6 minutes ago", where(road, 1), Icehighway.ON);
     }
 
     private static void gapOfOneThatIsLost() {
