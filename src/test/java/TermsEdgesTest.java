@@ -19,6 +19,7 @@ final class TermsEdgesTest {
         growthIsRoundedDown();
         riverGrowsLess();
         cracksByCold();
+        cracksWithoutIce();
         meltsInOrder();
         knownMeltsToo();
         atMostSixteenVehicles();
@@ -34,6 +35,7 @@ final class TermsEdgesTest {
         weightEdges();
         breakingEdges();
         brokenFromEachState();
+        brokenOnTheSecondPiece();
         firstNumbersFirst();
         stockHasNoEnd();
         moreThanOrdered();
@@ -398,6 +400,19 @@ final class TermsEdgesTest {
 
     // "with a cold of 40 or more, a WHOLE one is cracked DRY; with one from 10 to 39 a WET one is DRY, a DRY one
     // WHOLE", "A DRY one is WET then"
+
+    private static void cracksWithoutIce() {
+        int[] colds = {39, 40};
+        for (int cold : colds) {
+            Icehighway road = one(Icehighway.LAKE);
+            for (int i = 0; i < 8; i++) {
+                road.snow(500);
+            }
+            day(road, cold);
+            CHECK.same("400 by " + cold + " by 16050 is none", road.told(0, 0), 0);
+            CHECK.same("cracked by " + cold, road.told(0, 4), cold == 40 ? Icehighway.DRY : Icehighway.WHOLE);
+        }
+    }
 
     private static void cracksByCold() {
         int[] colds = {60, 41, 40, 39, 38, 11, 10, 9, 1, 0, -1, -20};
@@ -872,6 +887,40 @@ final class TermsEdgesTest {
                 }
             }
         }
+    }
+
+    // "6 in which minute its time on the piece is over, NONE if it is not ON one": no more of the first piece
+
+    private static void brokenOnTheSecondPiece() {
+        Icehighway road = one(Icehighway.PORTAGE);
+        road.piece(Icehighway.LAKE, 600, 999);
+        road.weather(39);
+        for (int d = 0; d < 20; d++) {
+            road.pass(1440);
+        }
+        road.weather(0);
+        road.snow(100);
+        road.drill(1);
+        road.open(0, Icehighway.FULL);
+        road.open(1, Icehighway.FULL);
+        road.vehicle(20000, 0, 100);
+        road.vehicle(10000, 60000, 100);
+        road.go(0);
+        road.pass(6);
+        CHECK.same("the first is over", where(road, 0), Icehighway.MINE);
+        int known = road.bears(1, true);
+        CHECK.isTrue("it wore the ice", road.bears(1, false) < known);
+        road.load(1, 0, known - 10000);
+        road.go(1);
+        road.pass(1);
+        CHECK.same("over with the portage", road.ofVehicle(1, 6), road.minute() + 1);
+        road.pass(1);
+        CHECK.same("lost", where(road, 1), Icehighway.LOST);
+        CHECK.same("in no minute", road.ofVehicle(1, 6), Icehighway.NONE);
+        CHECK.same("the portage lies behind it", road.ofVehicle(1, 4), 1);
+        CHECK.same("nothing is against it", road.why(1), Icehighway.NONE);
+        CHECK.same("the portage stays open", road.told(0, 5), Icehighway.FULL);
+        CHECK.same("the lake is closed", road.told(1, 5), Icehighway.CLOSED);
     }
 
     // "vehicles by rising numbers, all of this of the one ahead of the next one"
